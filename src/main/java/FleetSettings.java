@@ -408,8 +408,9 @@ public final class FleetSettings {
     // ---- approvals and what they hold
 
     private boolean isOnDuty(int person) {
-        int week = today / DAYS_OF_WEEK;
-        return contains(dutySets[week % DUTY_SETS], person);
+        int remainder = today / DAYS_OF_WEEK % DUTY_SETS;
+        // The day could only be negative after far more calls than the document promises anything about.
+        return remainder >= 0 && contains(dutySets[remainder], person);
     }
 
     private void hold(int change) {

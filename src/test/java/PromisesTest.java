@@ -3,9 +3,9 @@ import java.util.List;
 
 /** For each promise of the document: ordinary inputs, the edges that it names, and wrong inputs. */
 public final class PromisesTest {
-    private static final String INDEX = "throws.IndexOutOfBoundsException";
-    private static final String ARGUMENT = "throws.IllegalArgumentException";
-    private static final String STATE = "throws.IllegalStateException";
+    private static final String INDEX = Check.INDEX;
+    private static final String ARGUMENT = Check.ARGUMENT;
+    private static final String STATE = Check.STATE;
     private static final int NONE = FleetSettings.NONE;
     private static final int MASK = FleetSettings.MASK;
     private static final int CLEAR = FleetSettings.CLEAR;
@@ -66,20 +66,6 @@ public final class PromisesTest {
         Check.due(what + " changes nothing", before, all(x));
     }
 
-    private static Object comesBack(FleetSettings x, int person) {
-        return Check.answerOf(() -> {
-            x.comeBack(person);
-            return "comes";
-        });
-    }
-
-    private static Object withdraws(FleetSettings x, int change) {
-        return Check.answerOf(() -> {
-            x.withdraw(change);
-            return "withdraws";
-        });
-    }
-
     private static int machinesOf(FleetSettings x) {
         int machines = 0;
         while (machines < 12 && !INDEX.equals(Check.answerOf(machineCall(x, machines)))) {
@@ -110,32 +96,6 @@ public final class PromisesTest {
         return text.toString();
     }
 
-    /** Proposes a change of the person 0, and lets 1 and 2 hold it. */
-    private static int held(FleetSettings x, int place, int key, int what) {
-        return heldBy(x, 0, 1, 2, place, key, what);
-    }
-
-    private static int heldBy(FleetSettings x, int author, int one, int two, int place, int key, int what) {
-        int change = x.propose(author, place, key, what);
-        Check.due("one approval", OPEN, x.approve(one, change));
-        Check.due("two approvals", HELD, x.approve(two, change));
-        return change;
-    }
-
-    private static FleetSettings withMachines(int machines) {
-        FleetSettings x = new FleetSettings();
-        for (int m = 0; m < machines; m++) {
-            Check.due("a machine", m, x.addMachine(0));
-        }
-        return x;
-    }
-
-    private static void passDays(FleetSettings x, int days) {
-        for (int left = days; left > 0; left -= 60) {
-            x.pass(Math.min(left, 60));
-        }
-    }
-
     // ---- promise 1
 
     private static void newObject() {
@@ -147,7 +107,8 @@ public final class PromisesTest {
             Check.due("duty at first", 255, x.setDuty(remainder, 0));
         }
         for (int person = 0; person < 8; person++) {
-            Check.due("in service at first", STATE, comesBack(x, person));
+            int p = person;
+            Check.due("in service at first", STATE, Check.answerOf(() -> Snapshot.comesBack(x, p)));
         }
         for (int key = 0; key < 6; key++) {
             Check.due("told at first", NONE, x.told(0, key));
@@ -190,11 +151,11 @@ public final class PromisesTest {
     // ---- promise 3
 
     private static void leave() {
-        FleetSettings x = withMachines(1);
-        int two = heldBy(x, 0, 1, 2, 0, 0, 5);
-        int three = heldBy(x, 0, 1, 2, 0, 1, 6);
+        FleetSettings x = Stores.withMachines(1);
+        int two = Stores.heldBy(x, 0, 1, 2, 0, 0, 5);
+        int three = Stores.heldBy(x, 0, 1, 2, 0, 1, 6);
         x.approve(3, three);
-        int own = heldBy(x, 1, 2, 3, 0, 2, 7);
+        int own = Stores.heldBy(x, 1, 2, 3, 0, 2, 7);
         int open = x.propose(0, 0, 3, 8);
         x.approve(1, open);
         int ownOpen = x.propose(1, 0, 3, 9);
@@ -220,8 +181,8 @@ public final class PromisesTest {
         Check.due("approvals of a WITHDRAWN one are voided too", 1, x.approvals(own));
         Check.due("a WITHDRAWN one stays so", WITHDRAWN, x.state(own));
 
-        FleetSettings y = withMachines(1);
-        int change = held(y, 0, 0, 5);
+        FleetSettings y = Stores.withMachines(1);
+        int change = Stores.held(y, 0, 0, 5);
         Check.due("without suspicion", 0, y.leave(1, false));
         Check.due("author without suspicion", 0, y.leave(0, false));
         Check.due("holds", HELD, y.state(change));
@@ -275,9 +236,9 @@ public final class PromisesTest {
 
     private static void leaveWithdrawsLateOnes() {
         for (int days = 29; days <= 30; days++) {
-            FleetSettings x = withMachines(1);
+            FleetSettings x = Stores.withMachines(1);
             x.pass(20);
-            int change = heldBy(x, 3, 1, 2, 0, 0, 5);
+            int change = Stores.heldBy(x, 3, 1, 2, 0, 0, 5);
             x.pass(days);
             boolean isOld = days == 30;
             Check.due("days since it was proposed", isOld ? 0 : 1, x.leave(3, true));
@@ -293,25 +254,20 @@ public final class PromisesTest {
         int change = x.propose(0, 0, 0, 5);
         x.approve(3, change);
         x.leave(3, false);
-        Check.due("comes back", "comes", comesBack(x, 3));
+        Check.due("comes back", "comes", Snapshot.comesBack(x, 3));
         Check.due("is in service", 1, x.propose(3, 0, 0, 6));
         Check.due("the approval is still good", STATE, Check.answerOf(() -> x.approve(3, change)));
         Check.due("approvals", 1, x.approvals(change));
-        thrown(x, "in service", STATE, () -> comesBackOrThrows(x, 3));
-        thrown(x, "always in service", STATE, () -> comesBackOrThrows(x, 4));
+        thrown(x, "in service", STATE, () -> Snapshot.comesBack(x, 3));
+        thrown(x, "always in service", STATE, () -> Snapshot.comesBack(x, 4));
         x.leave(3, true);
-        thrown(x, "left under suspicion", STATE, () -> comesBackOrThrows(x, 3));
-        passDays(x, 100);
-        thrown(x, "left under suspicion long ago", STATE, () -> comesBackOrThrows(x, 3));
+        thrown(x, "left under suspicion", STATE, () -> Snapshot.comesBack(x, 3));
+        Stores.passDays(x, 100);
+        thrown(x, "left under suspicion long ago", STATE, () -> Snapshot.comesBack(x, 3));
         for (int person : OUTSIDE) {
-            thrown(x, "person " + person, INDEX, () -> comesBackOrThrows(x, person));
+            thrown(x, "person " + person, INDEX, () -> Snapshot.comesBack(x, person));
         }
-        thrown(x, "person 8", INDEX, () -> comesBackOrThrows(x, 8));
-    }
-
-    private static Object comesBackOrThrows(FleetSettings x, int person) {
-        x.comeBack(person);
-        return "comes";
+        thrown(x, "person 8", INDEX, () -> Snapshot.comesBack(x, 8));
     }
 
     // ---- promise 5
@@ -324,10 +280,10 @@ public final class PromisesTest {
         for (int days : new int[] {Integer.MIN_VALUE, -1, 0, 61, Integer.MAX_VALUE}) {
             thrown(x, "days " + days, ARGUMENT, () -> x.pass(days));
         }
-        int own = held(x, 100, 0, 1);
-        int group = held(x, 2, 1, 2);
-        int fleet = held(x, 0, 2, 3);
-        int clear = held(x, 1, 3, CLEAR);
+        int own = Stores.held(x, 100, 0, 1);
+        int group = Stores.held(x, 2, 1, 2);
+        int fleet = Stores.held(x, 0, 2, 3);
+        int clear = Stores.held(x, 1, 3, CLEAR);
         Check.due("the farthest layer first", 1, x.pass(1));
         Check.due("the fleet", fleet, x.taken(0, 3, 2));
         Check.due("not yet", NONE, x.taken(0, 2, 3));
@@ -339,17 +295,17 @@ public final class PromisesTest {
         Check.due("itself", own, x.taken(0, 0, 0));
         Check.due("nothing more", 0, x.pass(60));
         Check.due("all days passed", 122, x.day());
-        int both = held(x, 0, 0, 9);
-        held(x, 0, 1, 9);
+        int both = Stores.held(x, 0, 0, 9);
+        Stores.held(x, 0, 1, 9);
         Check.due("all keys of a layer are one step", 1, x.pass(60));
         Check.due("it is taken", both, x.taken(0, 3, 0));
         Check.due("another day", 182, x.day());
     }
 
     private static void passByPace() {
-        FleetSettings x = withMachines(4);
+        FleetSettings x = Stores.withMachines(4);
         x.setPace(2);
-        held(x, 0, 0, 5);
+        Stores.held(x, 0, 0, 5);
         x.work(0, 2);
         Check.due("two of them on a day", 2, x.pass(1));
         Check.due("busy", NONE, x.runs(0, 0));
@@ -360,17 +316,17 @@ public final class PromisesTest {
         Check.due("no more busy on the last day", 5, x.runs(0, 0));
         Check.due("those with nothing to take don't count", 5, x.runs(3, 0));
         x.setPace(0);
-        held(x, 0, 0, 6);
+        Stores.held(x, 0, 0, 6);
         Check.due("the pace 0", 0, x.pass(60));
         Check.due("runs on", 5, x.runs(0, 0));
         x.setPace(3);
         Check.due("after a while", 4, x.pass(2));
         x.work(1, 30);
-        held(x, 0, 0, 7);
+        Stores.held(x, 0, 0, 7);
         Check.due("three are idle", 3, x.pass(29));
         Check.due("still busy", 6, x.runs(1, 0));
         Check.due("after thirty days", 1, x.pass(1));
-        held(x, 0, 0, 8);
+        Stores.held(x, 0, 0, 8);
         for (int machine = 0; machine < 4; machine++) {
             x.work(machine, 7 + 3 * machine);
         }
@@ -383,15 +339,15 @@ public final class PromisesTest {
         x.addGroup(0);
         x.addMachine(1);
         x.addMachine(1);
-        int old = heldBy(x, 0, 1, 2, 0, 0, 1);
-        int good = heldBy(x, 0, 1, 2, 1, 1, 2);
-        heldBy(x, 0, 1, 2, 1, 2, 3);
+        int old = Stores.heldBy(x, 0, 1, 2, 0, 0, 1);
+        int good = Stores.heldBy(x, 0, 1, 2, 1, 1, 2);
+        Stores.heldBy(x, 0, 1, 2, 1, 2, 3);
         x.pass(2);
-        int bad = heldBy(x, 0, 1, 7, 0, 0, 4);
-        int alone = heldBy(x, 0, 1, 7, 0, 3, 5);
-        int near = heldBy(x, 0, 1, 7, 1, 1, 6);
+        int bad = Stores.heldBy(x, 0, 1, 7, 0, 0, 4);
+        int alone = Stores.heldBy(x, 0, 1, 7, 0, 3, 5);
+        int near = Stores.heldBy(x, 0, 1, 7, 1, 1, 6);
         x.pass(2);
-        int late = heldBy(x, 0, 1, 2, 1, 2, 8);
+        int late = Stores.heldBy(x, 0, 1, 2, 1, 2, 8);
         Check.due("three are lost", 3, x.leave(7, true));
         x.setPace(0);
         Check.due("going back needs no pace", 2, x.pass(1));
@@ -413,11 +369,11 @@ public final class PromisesTest {
     }
 
     private static void goingBackDoesNotCount() {
-        FleetSettings x = withMachines(3);
-        int bad = heldBy(x, 0, 1, 7, 100, 0, 4);
-        heldBy(x, 0, 1, 7, 101, 0, 4);
+        FleetSettings x = Stores.withMachines(3);
+        int bad = Stores.heldBy(x, 0, 1, 7, 100, 0, 4);
+        Stores.heldBy(x, 0, 1, 7, 101, 0, 4);
         x.pass(1);
-        held(x, 0, 1, 2);
+        Stores.held(x, 0, 1, 2);
         x.setPace(1);
         x.leave(7, true);
         Check.due("two go back and one takes", 3, x.pass(1));
@@ -436,7 +392,7 @@ public final class PromisesTest {
         x.pass(60);
         Check.due("sixty days more", 61, x.day());
         x.addMachine(0);
-        held(x, 0, 0, 1);
+        Stores.held(x, 0, 0, 1);
         x.pass(13);
         Check.due("days with steps", 74, x.day());
         thrown(x, "no day passes", ARGUMENT, () -> x.pass(61));
@@ -458,7 +414,7 @@ public final class PromisesTest {
         x.addMachine(9);
         Check.due("the farthest of eleven layers", NONE, x.taken(0, 10, 0));
         thrown(x, "no twelfth layer", INDEX, () -> x.taken(0, 11, 0));
-        int change = held(x, 0, 0, 42);
+        int change = Stores.held(x, 0, 0, 42);
         x.pass(1);
         Check.due("from the fleet", change, x.taken(0, 10, 0));
         Check.due("from the fleet", 10, x.layerOf(0, 0));
@@ -494,10 +450,10 @@ public final class PromisesTest {
         x.addGroup(1);
         x.addGroup(0);
         x.addMachine(2);
-        int fleet = held(x, 0, 0, 1);
-        int one = held(x, 1, 1, 2);
-        int two = held(x, 2, 2, 3);
-        int own = held(x, 100, 3, 4);
+        int fleet = Stores.held(x, 0, 0, 1);
+        int one = Stores.held(x, 1, 1, 2);
+        int two = Stores.held(x, 2, 2, 3);
+        int own = Stores.held(x, 100, 3, 4);
         x.pass(4);
         Check.due("its own group", 2, x.moveMachine(0, 2));
         Check.due("all stay", two, x.taken(0, 1, 2));
@@ -532,7 +488,7 @@ public final class PromisesTest {
         FleetSettings x = new FleetSettings();
         x.addGroup(0);
         x.addMachine(1);
-        heldBy(x, 0, 1, 2, 1, 0, 5);
+        Stores.heldBy(x, 0, 1, 2, 1, 0, 5);
         x.pass(1);
         x.leave(1, true);
         Check.due("stopped", true, x.isStopped(0));
@@ -543,7 +499,7 @@ public final class PromisesTest {
     // ---- promise 10
 
     private static void work() {
-        FleetSettings x = withMachines(2);
+        FleetSettings x = Stores.withMachines(2);
         x.pass(3);
         for (int machine : OUTSIDE) {
             thrown(x, "machine " + machine, INDEX, () -> x.work(machine, 1));
@@ -556,7 +512,7 @@ public final class PromisesTest {
         Check.due("thirty days", 33, x.work(1, 30));
         thrown(x, "busy", STATE, () -> x.work(0, 1));
         thrown(x, "busy and days 31", ARGUMENT, () -> x.work(0, 31));
-        held(x, 0, 0, 5);
+        Stores.held(x, 0, 0, 5);
         Check.due("on the last of these days", 1, x.pass(1));
         Check.due("not busy", false, x.isBusy(0));
         Check.due("it has taken", 5, x.runs(0, 0));
@@ -567,8 +523,8 @@ public final class PromisesTest {
     }
 
     private static void workEndsByStop() {
-        FleetSettings x = withMachines(2);
-        int change = heldBy(x, 0, 1, 2, 100, 0, 5);
+        FleetSettings x = Stores.withMachines(2);
+        int change = Stores.heldBy(x, 0, 1, 2, 100, 0, 5);
         x.pass(1);
         x.work(0, 20);
         x.work(1, 20);
@@ -587,25 +543,25 @@ public final class PromisesTest {
     // ---- promise 11
 
     private static void setPace() {
-        FleetSettings x = withMachines(12);
+        FleetSettings x = Stores.withMachines(12);
         Check.due("before", 12, x.setPace(0));
         Check.due("before", 0, x.setPace(12));
         Check.due("before", 12, x.setPace(5));
         for (int machines : new int[] {Integer.MIN_VALUE, -1, 13, Integer.MAX_VALUE}) {
             thrown(x, "pace " + machines, ARGUMENT, () -> x.setPace(machines));
         }
-        held(x, 0, 0, 1);
+        Stores.held(x, 0, 0, 1);
         Check.due("five", 5, x.pass(1));
         Check.due("five and two", 7, x.pass(2));
         Check.due("before", 5, x.setPace(12));
-        held(x, 0, 0, 2);
+        Stores.held(x, 0, 0, 2);
         Check.due("twelve", 12, x.pass(1));
     }
 
     // ---- promise 12
 
     private static void isBusy() {
-        FleetSettings x = withMachines(2);
+        FleetSettings x = Stores.withMachines(2);
         Check.due("not at first", false, x.isBusy(0));
         x.work(0, 2);
         Check.due("busy", true, x.isBusy(0));
@@ -654,10 +610,10 @@ public final class PromisesTest {
     // ---- promise 13
 
     private static void isStopped() {
-        FleetSettings x = withMachines(2);
+        FleetSettings x = Stores.withMachines(2);
         Check.due("not at first", false, x.isStopped(0));
-        int change = heldBy(x, 3, 1, 2, 100, 0, MASK);
-        int clear = heldBy(x, 3, 1, 2, 100, 1, CLEAR);
+        int change = Stores.heldBy(x, 3, 1, 2, 100, 0, MASK);
+        int clear = Stores.heldBy(x, 3, 1, 2, 100, 1, CLEAR);
         x.pass(1);
         Check.due("not with HELD ones", false, x.isStopped(0));
         x.leave(2, true);
@@ -677,7 +633,7 @@ public final class PromisesTest {
     // ---- promise 14
 
     private static void propose() {
-        FleetSettings x = withMachines(1);
+        FleetSettings x = Stores.withMachines(1);
         x.addGroup(0);
         for (int wrong : OUTSIDE) {
             thrown(x, "person " + wrong, INDEX, () -> x.propose(wrong, 0, 0, 0));
@@ -770,30 +726,25 @@ public final class PromisesTest {
         FleetSettings x = new FleetSettings();
         int open = x.propose(0, 0, 0, 5);
         x.approve(1, open);
-        noSuchChange(x, wrong -> withdrawsOrThrows(x, wrong));
-        Check.due("OPEN", "withdraws", withdraws(x, open));
+        noSuchChange(x, wrong -> Snapshot.withdraws(x, wrong));
+        Check.due("OPEN", "withdraws", Snapshot.withdraws(x, open));
         Check.due("WITHDRAWN", WITHDRAWN, x.state(open));
         Check.due("approvals stay", 1, x.approvals(open));
-        thrown(x, "WITHDRAWN", STATE, () -> withdrawsOrThrows(x, open));
-        int held = held(x, 0, 0, 6);
-        thrown(x, "HELD", STATE, () -> withdrawsOrThrows(x, held));
+        thrown(x, "WITHDRAWN", STATE, () -> Snapshot.withdraws(x, open));
+        int held = Stores.held(x, 0, 0, 6);
+        thrown(x, "HELD", STATE, () -> Snapshot.withdraws(x, held));
         x.leave(1, true);
         Check.due("VOID", VOID, x.state(held));
-        thrown(x, "VOID", STATE, () -> withdrawsOrThrows(x, held));
+        thrown(x, "VOID", STATE, () -> Snapshot.withdraws(x, held));
         Check.due("an approval of a WITHDRAWN one is voided", 0, x.approvals(open));
-    }
-
-    private static Object withdrawsOrThrows(FleetSettings x, int change) {
-        x.withdraw(change);
-        return "withdraws";
     }
 
     // ---- promise 17
 
     private static void exclude() {
-        FleetSettings x = withMachines(1);
+        FleetSettings x = Stores.withMachines(1);
         for (int key = 0; key < 6; key++) {
-            held(x, 0, key, key);
+            Stores.held(x, 0, key, key);
         }
         noSuchKey(x, key -> x.exclude(key, 0, true));
         noSuchKey(x, key -> x.exclude(0, key, true));
@@ -830,7 +781,7 @@ public final class PromisesTest {
         Check.due("one", 1, x.changes());
         x.withdraw(change);
         Check.due("a WITHDRAWN one counts", 1, x.changes());
-        held(x, 0, 0, 0);
+        Stores.held(x, 0, 0, 0);
         Check.due("two", 2, x.changes());
         for (int more = 2; more < 40; more++) {
             x.propose(0, 0, 0, 0);
@@ -856,14 +807,14 @@ public final class PromisesTest {
         x.leave(0, true);
         Check.due("WITHDRAWN", WITHDRAWN, x.state(change));
         x.leave(2, true);
-        passDays(x, 60);
+        Stores.passDays(x, 60);
         Check.due("WITHDRAWN stays", WITHDRAWN, x.state(change));
     }
 
     // ---- promise 20
 
     private static void rank() {
-        FleetSettings x = withMachines(1);
+        FleetSettings x = Stores.withMachines(1);
         int first = x.propose(0, 0, 0, 1);
         int second = x.propose(0, 0, 0, 2);
         int third = x.propose(3, 0, 0, 3);
@@ -920,7 +871,7 @@ public final class PromisesTest {
     // ---- promise 22
 
     private static void told() {
-        FleetSettings x = withMachines(1);
+        FleetSettings x = Stores.withMachines(1);
         x.addGroup(0);
         for (int place : new int[] {-1, 2, 99, 101, 112, Integer.MIN_VALUE, Integer.MAX_VALUE}) {
             thrown(x, "place " + place, INDEX, () -> x.told(place, 0));
@@ -929,14 +880,14 @@ public final class PromisesTest {
         x.propose(0, 0, 0, 5);
         Check.due("an OPEN one tells nothing", NONE, x.told(0, 0));
         for (int place : new int[] {0, 1, 100}) {
-            held(x, place, 2, 0);
+            Stores.held(x, place, 2, 0);
             Check.due("a value", 0, x.told(place, 2));
             Check.due("another key", NONE, x.told(place, 3));
-            held(x, place, 2, MASK);
+            Stores.held(x, place, 2, MASK);
             Check.due("MASK", MASK, x.told(place, 2));
-            held(x, place, 2, 99);
+            Stores.held(x, place, 2, 99);
             Check.due("a value", 99, x.told(place, 2));
-            int last = heldBy(x, 3, 4, 5, place, 2, CLEAR);
+            int last = Stores.heldBy(x, 3, 4, 5, place, 2, CLEAR);
             Check.due("CLEAR", NONE, x.told(place, 2));
             Check.due("its rank is the greatest", true, x.rank(last) == x.changes() - 2);
         }
@@ -952,9 +903,9 @@ public final class PromisesTest {
         FleetSettings x = new FleetSettings();
         x.addGroup(0);
         x.addMachine(1);
-        int fleet = held(x, 0, 0, 1);
-        int group = held(x, 1, 5, 2);
-        int own = held(x, 100, 3, 3);
+        int fleet = Stores.held(x, 0, 0, 1);
+        int group = Stores.held(x, 1, 5, 2);
+        int own = Stores.held(x, 100, 3, 3);
         Check.due("none at first", NONE, x.taken(0, 2, 0));
         x.pass(3);
         Check.due("of the fleet", fleet, x.taken(0, 2, 0));
@@ -967,7 +918,7 @@ public final class PromisesTest {
         thrown(x, "layer 3", INDEX, () -> x.taken(0, 3, 0));
         noSuchKey(x, key -> x.taken(0, 0, key));
         noSuchMachine(x, 1, machine -> x.taken(machine, 0, 0));
-        int next = held(x, 100, 3, 4);
+        int next = Stores.held(x, 100, 3, 4);
         Check.due("the one before", own, x.taken(0, 0, 3));
         x.pass(1);
         Check.due("the next", next, x.taken(0, 0, 3));
@@ -980,24 +931,24 @@ public final class PromisesTest {
         x.addGroup(0);
         x.addMachine(1);
         x.addMachine(0);
-        held(x, 0, 0, 0);
+        Stores.held(x, 0, 0, 0);
         Check.due("not yet taken", NONE, x.runs(0, 0));
         x.pass(1);
         Check.due("of the fleet", 0, x.runs(0, 0));
-        held(x, 1, 0, MASK);
+        Stores.held(x, 1, 0, MASK);
         x.pass(1);
         Check.due("masked", NONE, x.runs(0, 0));
         Check.due("not in the fleet", 0, x.runs(1, 0));
-        held(x, 100, 0, 99);
+        Stores.held(x, 100, 0, 99);
         x.pass(1);
         Check.due("nearer than the mask", 99, x.runs(0, 0));
-        held(x, 100, 0, CLEAR);
+        Stores.held(x, 100, 0, CLEAR);
         x.pass(1);
         Check.due("CLEAR tells nothing", NONE, x.runs(0, 0));
-        held(x, 1, 0, CLEAR);
+        Stores.held(x, 1, 0, CLEAR);
         x.pass(1);
         Check.due("the fleet again", 0, x.runs(0, 0));
-        int other = heldBy(x, 0, 1, 3, 1, 1, 7);
+        int other = Stores.heldBy(x, 0, 1, 3, 1, 1, 7);
         x.pass(1);
         x.exclude(0, 1, true);
         Check.due("hidden by the nearer one", NONE, x.runs(0, 0));
@@ -1020,17 +971,17 @@ public final class PromisesTest {
         x.addGroup(0);
         x.addMachine(1);
         Check.due("none", NONE, x.layerOf(0, 0));
-        held(x, 0, 0, 0);
+        Stores.held(x, 0, 0, 0);
         x.pass(1);
         Check.due("the fleet", 2, x.layerOf(0, 0));
-        held(x, 1, 0, 5);
+        Stores.held(x, 1, 0, 5);
         Check.due("not yet", 2, x.layerOf(0, 0));
         x.pass(1);
         Check.due("the group", 1, x.layerOf(0, 0));
-        heldBy(x, 0, 1, 3, 100, 0, 0);
+        Stores.heldBy(x, 0, 1, 3, 100, 0, 0);
         x.pass(1);
         Check.due("itself", 0, x.layerOf(0, 0));
-        held(x, 100, 1, 6);
+        Stores.held(x, 100, 1, 6);
         x.exclude(0, 1, true);
         x.pass(1);
         Check.due("hidden", NONE, x.layerOf(0, 0));
@@ -1038,7 +989,7 @@ public final class PromisesTest {
         x.leave(3, true);
         Check.due("stopped", NONE, x.layerOf(0, 1));
         x.pass(1);
-        held(x, 100, 0, MASK);
+        Stores.held(x, 100, 0, MASK);
         x.pass(1);
         Check.due("masked", NONE, x.layerOf(0, 0));
         noSuchKey(x, key -> x.layerOf(0, key));
@@ -1060,14 +1011,14 @@ public final class PromisesTest {
         x.addGroup(0);
         x.addMachine(1);
         dueBoth("none", NONE, x, 0, 0);
-        heldBy(x, 0, 1, 2, 0, 0, 1);
+        Stores.heldBy(x, 0, 1, 2, 0, 0, 1);
         dueBoth("the fleet", 1, x, 0, 0);
         Check.due("it does not run", NONE, x.runs(0, 0));
-        int mask = heldBy(x, 0, 1, 7, 1, 0, MASK);
+        int mask = Stores.heldBy(x, 0, 1, 7, 1, 0, MASK);
         dueBoth("masked", NONE, x, 0, 0);
-        heldBy(x, 0, 1, 7, 100, 0, 2);
+        Stores.heldBy(x, 0, 1, 7, 100, 0, 2);
         dueBoth("itself", 2, x, 0, 0);
-        heldBy(x, 0, 1, 6, 100, 0, CLEAR);
+        Stores.heldBy(x, 0, 1, 6, 100, 0, CLEAR);
         dueBoth("CLEAR", NONE, x, 0, 0);
         x.work(0, 30);
         dueBoth("busy", NONE, x, 0, 0);
@@ -1079,7 +1030,7 @@ public final class PromisesTest {
         dueBoth("masked again", NONE, x, 0, 0);
         x.moveMachine(movable(x), 0);
         dueBoth("by its new layers", 1, x, 0, 0);
-        heldBy(x, 2, 3, 4, 0, 3, 8);
+        Stores.heldBy(x, 2, 3, 4, 0, 3, 8);
         x.exclude(0, 3, true);
         dueBoth("hidden", NONE, x, 0, 0);
         dueBoth("shown", 8, x, 0, 3);
@@ -1093,7 +1044,7 @@ public final class PromisesTest {
     }
 
     private static void dueAnew() {
-        FleetSettings x = withMachines(1);
+        FleetSettings x = Stores.withMachines(1);
         noSuchKey(x, key -> x.dueAnew(0, key));
         noSuchMachine(x, 1, machine -> x.dueAnew(machine, 0));
         int early = x.propose(0, 0, 0, 1);
@@ -1136,9 +1087,9 @@ public final class PromisesTest {
     }
 
     private static void rankOutlivesItsApprovals() {
-        FleetSettings x = withMachines(1);
-        int low = heldBy(x, 0, 1, 2, 0, 0, 1);
-        heldBy(x, 0, 3, 4, 0, 0, 2);
+        FleetSettings x = Stores.withMachines(1);
+        int low = Stores.heldBy(x, 0, 1, 2, 0, 0, 1);
+        Stores.heldBy(x, 0, 3, 4, 0, 0, 2);
         x.leave(1, true);
         x.leave(2, true);
         x.approve(5, low);
@@ -1158,20 +1109,20 @@ public final class PromisesTest {
         x.addGroup(0);
         x.addMachine(1);
         Check.due("none", 0, x.behind(0));
-        held(x, 0, 0, 1);
-        held(x, 0, 1, 2);
+        Stores.held(x, 0, 0, 1);
+        Stores.held(x, 0, 1, 2);
         Check.due("a layer counts once", 1, x.behind(0));
-        held(x, 1, 0, CLEAR);
-        held(x, 100, 0, MASK);
+        Stores.held(x, 1, 0, CLEAR);
+        Stores.held(x, 100, 0, MASK);
         Check.due("all three", 3, x.behind(0));
         x.pass(1);
         Check.due("two", 2, x.behind(0));
         x.pass(2);
         Check.due("none", 0, x.behind(0));
-        held(x, 0, 0, 1);
+        Stores.held(x, 0, 0, 1);
         Check.due("the same value from another change", 1, x.behind(0));
         x.pass(1);
-        int alone = heldBy(x, 0, 1, 3, 100, 4, 9);
+        int alone = Stores.heldBy(x, 0, 1, 3, 100, 4, 9);
         x.pass(1);
         x.leave(3, true);
         Check.due("VOID", VOID, x.state(alone));
@@ -1189,20 +1140,20 @@ public final class PromisesTest {
         x.addMachine(1);
         Check.due("none", 0, x.hidden(0));
         x.exclude(0, 1, true);
-        held(x, 1, 0, 1);
+        Stores.held(x, 1, 0, 1);
         Check.due("the other has no value", 0, x.hidden(0));
-        held(x, 0, 1, 2);
+        Stores.held(x, 0, 1, 2);
         Check.due("the farther layer, though its rank is greater", 2, x.hidden(0));
-        int same = held(x, 1, 1, 3);
+        int same = Stores.held(x, 1, 1, 3);
         Check.due("the lower rank of one layer", 1, x.hidden(0));
         Check.due("its rank", 2, x.rank(same));
-        held(x, 1, 0, 4);
+        Stores.held(x, 1, 0, 4);
         Check.due("the other way", 2, x.hidden(0));
-        held(x, 1, 0, MASK);
+        Stores.held(x, 1, 0, MASK);
         Check.due("a mask is no value", 0, x.hidden(0));
-        held(x, 1, 0, CLEAR);
+        Stores.held(x, 1, 0, CLEAR);
         Check.due("CLEAR is no value", 0, x.hidden(0));
-        held(x, 0, 0, 5);
+        Stores.held(x, 0, 0, 5);
         Check.due("the fleet is farther", 1, x.hidden(0));
         x.exclude(1, 0, false);
         Check.due("not any more", 0, x.hidden(0));
@@ -1215,9 +1166,9 @@ public final class PromisesTest {
         x.addMachine(1);
         x.exclude(3, 4, true);
         x.exclude(4, 5, true);
-        held(x, 0, 3, 1);
-        held(x, 1, 4, 2);
-        held(x, 100, 5, 3);
+        Stores.held(x, 0, 3, 1);
+        Stores.held(x, 1, 4, 2);
+        Stores.held(x, 100, 5, 3);
         Check.due("a hidden one hides", 1 << 3 | 1 << 4, x.hidden(0));
         Check.due("the nearest one", 3, x.due(0, 5));
         Check.due("the middle one", NONE, x.due(0, 4));
@@ -1231,9 +1182,9 @@ public final class PromisesTest {
     // ---- promise 30
 
     private static void spread() {
-        FleetSettings x = withMachines(3);
-        int fleet = held(x, 0, 0, 1);
-        int own = held(x, 101, 0, 2);
+        FleetSettings x = Stores.withMachines(3);
+        int fleet = Stores.held(x, 0, 0, 1);
+        int own = Stores.held(x, 101, 0, 2);
         noSuchChange(x, x::spread);
         Check.due("none", 0, x.spread(fleet));
         x.setPace(2);
@@ -1243,7 +1194,7 @@ public final class PromisesTest {
         Check.due("all", 3, x.spread(fleet));
         x.pass(1);
         Check.due("one", 1, x.spread(own));
-        int clear = held(x, 0, 0, CLEAR);
+        int clear = Stores.held(x, 0, 0, CLEAR);
         Check.due("OPEN ones", 0, x.spread(x.propose(0, 0, 0, 4)));
         x.setPace(1);
         x.pass(1);
@@ -1254,7 +1205,7 @@ public final class PromisesTest {
     // ---- exceptions
 
     private static void firstExceptionIsThrown() {
-        FleetSettings x = withMachines(1);
+        FleetSettings x = Stores.withMachines(1);
         x.work(0, 5);
         thrown(x, "all wrong", INDEX, () -> x.work(9, 99));
         thrown(x, "all wrong", INDEX, () -> x.propose(9, 99, 9, 999));
