@@ -295,15 +295,24 @@ final class MachineSentences {
         x.moveMachine(0, 9);
         Check.due("what is gone stays gone", 9, x.behind(0));
         Check.due("the fleet stayed", ofGroup[0], x.taken(0, 10, 0));
-        FleetSettings y = Stores.made(TEN_GROUPS);
-        y.addMachine(7);
-        int three = Stores.held(y, 3, 0, 1);
-        int seven = Stores.held(y, 7, 0, 2);
-        y.pass(2);
-        y.moveMachine(0, 8);
-        Check.due("to a group with the same parent", three, y.taken(0, 2, 0));
-        Check.due("the group before", 0, y.spread(seven));
-        Check.due("nothing taken of the new group", NONE, y.taken(0, 1, 0));
+        Check.due("taken again", 9, x.pass(60));
+        x.moveMachine(0, 0);
+        for (int group = 1; group < 10; group++) {
+            Check.due("gone at once, group " + group, 0, x.spread(ofGroup[group]));
+        }
+        movesBetweenSiblings();
+    }
+
+    private static void movesBetweenSiblings() {
+        FleetSettings x = Stores.made(TEN_GROUPS);
+        x.addMachine(7);
+        int three = Stores.held(x, 3, 0, 1);
+        int seven = Stores.held(x, 7, 0, 2);
+        x.pass(2);
+        x.moveMachine(0, 8);
+        Check.due("to a group with the same parent", three, x.taken(0, 2, 0));
+        Check.due("the group before", 0, x.spread(seven));
+        Check.due("nothing taken of the new group", NONE, x.taken(0, 1, 0));
     }
 
     // ---- promise 10
@@ -525,6 +534,22 @@ final class MachineSentences {
         Check.due("none has the lost ones", 0, x.spread(lostNear) + x.spread(aloneNear) + x.spread(lostFar));
         Check.due("then it takes again", 1, x.pass(1));
         Check.due("the later one", later, x.taken(0, 0, 2));
+        eachGoesBackInItsOwnLayer();
+    }
+
+    private static void eachGoesBackInItsOwnLayer() {
+        FleetSettings x = Stores.withMachines(12);
+        int[] own = new int[12];
+        for (int machine = 0; machine < 12; machine++) {
+            own[machine] = Stores.heldBy(x, 0, 1, 7, 100 + machine, machine % 6, machine);
+        }
+        Check.due("all take", 12, x.pass(1));
+        x.leave(7, true);
+        Check.due("all go back", 12, x.pass(1));
+        for (int machine = 0; machine < 12; machine++) {
+            Check.due("gone from " + machine, 0, x.spread(own[machine]));
+            Check.due("none instead", NONE, x.taken(machine, 0, machine % 6));
+        }
     }
 
     private static void takesTheFarthestLayer() {

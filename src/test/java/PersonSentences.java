@@ -15,6 +15,16 @@ final class PersonSentences {
         }
     };
 
+    /** Days without a step come before and between the days on which the machines end their work. */
+    private static final Stores.Story ALL_BUSY = x -> {
+        Stores.addMachines(x, 0, 0, 0, 0);
+        x.pass(1);
+        Stores.held(x, 0, 0, 1);
+        for (int machine = 0; machine < 4; machine++) {
+            x.work(machine, 29 - 8 * machine);
+        }
+    };
+
     private PersonSentences() {
     }
 
@@ -332,7 +342,7 @@ final class PersonSentences {
     private static void pass() {
         Sentences.chapter("Promise 5: pass");
         Sentences.says("Lets days pass, one after the other, with the steps of machines.", () -> {
-            for (Stores.Story story : List.of(Stores.EMPTY, Stores.MIDDLE, Stores.FULL)) {
+            for (Stores.Story story : List.of(Stores.EMPTY, Stores.MIDDLE, Stores.FULL, ALL_BUSY)) {
                 for (int days : new int[] {2, 7, 21, 60}) {
                     Check.due(days + " days, one by one", "", Snapshot.difference(
                             Snapshot.of(x -> passOneByOne(x, story, days)), Snapshot.of(x -> passAtOnce(x, story, days))));
@@ -368,7 +378,7 @@ final class PersonSentences {
     }
 
     private static void countsSteps() {
-        for (Stores.Story story : List.of(Stores.MIDDLE, Stores.FULL)) {
+        for (Stores.Story story : List.of(Stores.MIDDLE, Stores.FULL, ALL_BUSY)) {
             for (int days = 1; days <= 60; days++) {
                 Check.due("steps of " + days + " days", passOneByOne(new FleetSettings(), story, days),
                         passAtOnce(new FleetSettings(), story, days));

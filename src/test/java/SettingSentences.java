@@ -467,6 +467,11 @@ final class SettingSentences {
             }
         }
         anewByDays();
+        anewByRanks();
+        anewAfterVoided();
+        for (int last = 0; last < 8; last++) {
+            anewByLastApprover(last);
+        }
     }
 
     private static void anewByDays() {
@@ -488,6 +493,67 @@ final class SettingSentences {
             x.leave(3, true);
             Check.due("later leavings void none of these", days < 30 ? NONE : 1, x.dueAnew(0, 0));
         }
+    }
+
+    /** Which change got its rank first, by the approvals and leavings until then. */
+    private static void anewByRanks() {
+        FleetSettings x = Stores.withMachines(1);
+        int first = x.propose(0, 0, 0, 1);
+        int second = x.propose(0, 0, 0, 2);
+        x.approve(7, first);
+        x.approve(1, second);
+        x.approve(2, second);
+        Check.due("the only one", 2, x.dueAnew(0, 0));
+        x.approve(6, first);
+        Check.due("its second approval came last", 1, x.dueAnew(0, 0));
+        x.approve(3, second);
+        Check.due("a third one does not count", 1, x.dueAnew(0, 0));
+        x.leave(7, true);
+        Check.due("one good approval is left", 2, x.dueAnew(0, 0));
+        x.approve(5, first);
+        Check.due("with the rank that it had", 1, x.dueAnew(0, 0));
+        x.leave(2, true);
+        Check.due("two are left to the other one", 1, x.dueAnew(0, 0));
+        x.leave(6, true);
+        Check.due("one is left to this one", 2, x.dueAnew(0, 0));
+    }
+
+    private static void anewAfterVoided() {
+        FleetSettings x = Stores.withMachines(1);
+        int late = x.propose(0, 0, 0, 1);
+        x.approve(7, late);
+        x.leave(7, true);
+        x.approve(1, late);
+        int early = Stores.held(x, 0, 0, 2);
+        x.approve(3, late);
+        Check.due("a voided approval did not help it to a rank", 1, x.dueAnew(0, 0));
+        x.leave(2, true);
+        Check.due("without its own second one", 1, x.dueAnew(0, 0));
+        x.approve(4, early);
+        Check.due("the other one has the rank that it had", 1, x.dueAnew(0, 0));
+        int next = Stores.heldBy(x, 0, 4, 5, 0, 0, 3);
+        Check.due("the next one", 3, x.dueAnew(0, 0));
+        x.leave(5, true);
+        Check.due("VOID", 1, x.dueAnew(0, 0));
+        x.approve(6, next);
+        Check.due("HELD again", 3, x.dueAnew(0, 0));
+    }
+
+    /** The later one of two changes is HELD by this person, with a leaving just before. */
+    private static void anewByLastApprover(int last) {
+        FleetSettings x = Stores.withMachines(1);
+        int author = (last + 1) % 8;
+        int one = (last + 2) % 8;
+        int two = (last + 3) % 8;
+        int first = x.propose(author, 0, 0, 1);
+        int second = x.propose(author, 0, 0, 2);
+        x.approve(one, second);
+        x.approve(one, first);
+        x.approve(two, first);
+        Check.due("the first one", 1, x.dueAnew(0, 0));
+        x.leave((last + 4) % 8, true);
+        x.approve(last, second);
+        Check.due("the second one, by " + last, 2, x.dueAnew(0, 0));
     }
 
     // ---- promise 28
