@@ -253,7 +253,7 @@ public final class FleetSettings {
 
     public int rank(int change) throws IndexOutOfBoundsException {
         requireChange(change);
-        return heads.rankOfChange[change];
+        return heads.rankOf(change);
     }
 
     public int approvals(int change) throws IndexOutOfBoundsException {
@@ -264,7 +264,7 @@ public final class FleetSettings {
     public int told(int place, int key) throws IndexOutOfBoundsException {
         requirePlace(place);
         requireKey(key);
-        int what = whatIsToldBy(heads.changeAt[cellOf(slotOf(place), key)]);
+        int what = whatIsToldBy(heads.cells.get(cellOf(slotOf(place), key)));
         return what == CLEAR ? NONE : what;
     }
 
@@ -273,11 +273,11 @@ public final class FleetSettings {
     public int taken(int machine, int layer, int key) throws IndexOutOfBoundsException {
         requireMachine(machine);
         Machine asked = machineRows[machine];
-        if (layer < 0 || layer >= asked.layerCount) {
+        if (!asked.hasLayer(layer)) {
             throw new IndexOutOfBoundsException("no such layer");
         }
         requireKey(key);
-        return asked.takenAt[cellOf(asked.slotOfLayer[layer], key)];
+        return asked.takenCells.get(asked.cellIn(layer, key));
     }
 
     public int runs(int machine, int key) throws IndexOutOfBoundsException {
@@ -297,7 +297,7 @@ public final class FleetSettings {
     public int due(int machine, int key) throws IndexOutOfBoundsException {
         requireMachine(machine);
         requireKey(key);
-        findOutcome(machineRows[machine], heads.changeAt, heads.rankOfChange);
+        findOutcome(machineRows[machine], heads.cells, heads);
         return outcome.valueIfShown(key);
     }
 
@@ -305,7 +305,7 @@ public final class FleetSettings {
         requireMachine(machine);
         requireKey(key);
         findHeadsAnew();
-        findOutcome(machineRows[machine], headsAnew.changeAt, headsAnew.rankOfChange);
+        findOutcome(machineRows[machine], headsAnew.cells, headsAnew);
         return outcome.valueIfShown(key);
     }
 
@@ -323,7 +323,7 @@ public final class FleetSettings {
 
     public int hidden(int machine) throws IndexOutOfBoundsException {
         requireMachine(machine);
-        findOutcome(machineRows[machine], heads.changeAt, heads.rankOfChange);
+        findOutcome(machineRows[machine], heads.cells, heads);
         return outcome.hiddenKeys;
     }
 
@@ -332,7 +332,7 @@ public final class FleetSettings {
         int cell = changeRows[change].cell;
         int machines = 0;
         for (int machine = 0; machine < machineCount; machine++) {
-            if (machineRows[machine].takenAt[cell] == change) {
+            if (machineRows[machine].takenCells.get(cell) == change) {
                 machines++;
             }
         }
@@ -415,8 +415,8 @@ public final class FleetSettings {
 
     private void hold(int change) {
         changeRows[change].condition = HELD;
-        if (heads.rankOfChange[change] == NONE) {
-            heads.rankOfChange[change] = rankCount;
+        if (heads.rankOf(change) == NONE) {
+            heads.setRank(change, rankCount);
             rankCount++;
         }
         findHeads();
@@ -441,7 +441,7 @@ public final class FleetSettings {
     }
 
     private void findHeads() {
-        heads.forgetChanges();
+        heads.cells.clear();
         for (int change = 0; change < changeCount; change++) {
             if (changeRows[change].condition == HELD) {
                 heads.raise(changeRows[change].cell, change);
@@ -450,9 +450,9 @@ public final class FleetSettings {
     }
 
     private void findHeadsAnew() {
-        headsAnew.forgetChanges();
+        headsAnew.cells.clear();
         for (int change = 0; change < changeCount; change++) {
-            headsAnew.rankOfChange[change] = changeRows[change].firstHeldMoment(personRows);
+            headsAnew.setRank(change, changeRows[change].firstHeldMoment(personRows));
             if (changeRows[change].isHeldAnew(personRows)) {
                 headsAnew.raise(changeRows[change].cell, change);
             }
@@ -491,7 +491,7 @@ public final class FleetSettings {
     private int nearestLayerNotHeld(Machine machine) {
         for (int layer = 0; layer < machine.layerCount; layer++) {
             for (int key = 0; key < KEYS; key++) {
-                if (isTakenNotHeld(machine.takenAt[cellOf(machine.slotOfLayer[layer], key)])) {
+                if (isTakenNotHeld(machine.takenCells.get(machine.cellIn(layer, key)))) {
                     return layer;
                 }
             }
@@ -505,9 +505,9 @@ public final class FleetSettings {
 
     private void goBack(Machine machine, int layer) {
         for (int key = 0; key < KEYS; key++) {
-            int cell = cellOf(machine.slotOfLayer[layer], key);
-            if (isTakenNotHeld(machine.takenAt[cell])) {
-                machine.takenAt[cell] = heads.changeAt[cell];
+            int cell = machine.cellIn(layer, key);
+            if (isTakenNotHeld(machine.takenCells.get(cell))) {
+                machine.takenCells.set(cell, heads.cells.get(cell));
             }
         }
     }
@@ -525,15 +525,15 @@ public final class FleetSettings {
 
     private void takeLayer(Machine machine, int layer) {
         for (int key = 0; key < KEYS; key++) {
-            int cell = cellOf(machine.slotOfLayer[layer], key);
-            machine.takenAt[cell] = heads.changeAt[cell];
+            int cell = machine.cellIn(layer, key);
+            machine.takenCells.set(cell, heads.cells.get(cell));
         }
     }
 
     private boolean isBehindIn(Machine machine, int layer) {
         for (int key = 0; key < KEYS; key++) {
-            int cell = cellOf(machine.slotOfLayer[layer], key);
-            if (machine.takenAt[cell] != heads.changeAt[cell]) {
+            int cell = machine.cellIn(layer, key);
+            if (machine.takenCells.get(cell) != heads.cells.get(cell)) {
                 return true;
             }
         }
@@ -546,27 +546,27 @@ public final class FleetSettings {
         if (nearestLayerNotHeld(machine) != NONE) {
             outcome.forget();
         } else {
-            findOutcome(machine, machine.takenAt, heads.rankOfChange);
+            findOutcome(machine, machine.takenCells, heads);
         }
     }
 
-    private void findOutcome(Machine machine, int[] changeAt, int[] rankOfChange) {
+    private void findOutcome(Machine machine, Cells cells, Heads ranks) {
         outcome.forget();
         for (int key = 0; key < KEYS; key++) {
-            decide(machine, changeAt, rankOfChange, key);
+            decide(machine, cells, ranks, key);
         }
         outcome.hideExcluded(excludedBy);
     }
 
-    private void decide(Machine machine, int[] changeAt, int[] rankOfChange, int key) {
+    private void decide(Machine machine, Cells cells, Heads ranks, int key) {
         for (int layer = 0; layer < machine.layerCount; layer++) {
-            int change = changeAt[cellOf(machine.slotOfLayer[layer], key)];
+            int change = cells.get(machine.cellIn(layer, key));
             int what = whatIsToldBy(change);
             if (what == MASK) {
                 return;
             }
             if (what != NONE && what != CLEAR) {
-                outcome.set(key, what, layer, rankOfChange[change]);
+                outcome.set(key, what, layer, ranks.rankOf(change));
                 return;
             }
         }
@@ -641,7 +641,7 @@ public final class FleetSettings {
 
         /** One that was withdrawn by a call was OPEN, so it never had approvals enough. */
         boolean isHeldAnew(Person[] persons) {
-            if (persons[author].hasVoided(proposedDay)) {
+            if (isProposalVoided(persons)) {
                 return false;
             }
             int good = 0;
@@ -651,6 +651,10 @@ public final class FleetSettings {
                 }
             }
             return good >= APPROVALS_TO_HOLD;
+        }
+
+        private boolean isProposalVoided(Person[] persons) {
+            return author >= 0 && author < persons.length && persons[author].hasVoided(proposedDay);
         }
 
         /** The moments at which changes were HELD first have the order of their ranks. */
@@ -680,25 +684,60 @@ public final class FleetSettings {
         }
     }
 
-    /** For each cell the HELD change with the greatest rank. */
+    /** For each cell a change; NONE if there is none, or no such cell. */
+    private static final class Cells {
+        private final int[] changeAt = new int[CELLS];
+
+        Cells() {
+            Arrays.fill(changeAt, NONE);
+        }
+
+        void clear() {
+            Arrays.fill(changeAt, NONE);
+        }
+
+        int get(int cell) {
+            return isCell(cell) ? changeAt[cell] : NONE;
+        }
+
+        void set(int cell, int change) {
+            if (isCell(cell)) {
+                changeAt[cell] = change;
+            }
+        }
+
+        private boolean isCell(int cell) {
+            return cell >= 0 && cell < changeAt.length;
+        }
+    }
+
+    /** For each cell the HELD change with the greatest rank, and the ranks by which that was found. */
     private static final class Heads {
-        final int[] changeAt = new int[CELLS];
-        final int[] rankOfChange = new int[CHANGES];
+        final Cells cells = new Cells();
+        private final int[] rankOfChange = new int[CHANGES];
 
         Heads() {
-            Arrays.fill(changeAt, NONE);
             Arrays.fill(rankOfChange, NONE);
         }
 
-        void forgetChanges() {
-            Arrays.fill(changeAt, NONE);
+        int rankOf(int change) {
+            return isRanked(change) ? rankOfChange[change] : NONE;
+        }
+
+        void setRank(int change, int itsRank) {
+            if (isRanked(change)) {
+                rankOfChange[change] = itsRank;
+            }
         }
 
         void raise(int cell, int change) {
-            int head = changeAt[cell];
-            if (head == NONE || rankOfChange[head] < rankOfChange[change]) {
-                changeAt[cell] = change;
+            if (rankOf(cells.get(cell)) < rankOf(change)) {
+                cells.set(cell, change);
             }
+        }
+
+        private boolean isRanked(int change) {
+            return change >= 0 && change < rankOfChange.length;
         }
     }
 
@@ -708,30 +747,44 @@ public final class FleetSettings {
         int group;
         int freeFrom;
         int layerCount;
-        final int[] slotOfLayer = new int[MOST_LAYERS];
-        final int[] takenAt = new int[CELLS];
+        final Cells takenCells = new Cells();
+        private final int[] slotOfLayer = new int[MOST_LAYERS];
 
         Machine(int slot) {
             ownSlot = slot;
-            Arrays.fill(takenAt, NONE);
         }
 
         void enterGroup(int newGroup, int[] parents) {
             group = newGroup;
-            slotOfLayer[0] = ownSlot;
-            layerCount = 1;
+            layerCount = 0;
+            addLayer(ownSlot);
             int next = newGroup;
-            while (next >= 0 && next < parents.length && layerCount < MOST_LAYERS) {
-                slotOfLayer[layerCount] = next;
-                layerCount++;
+            for (int left = GROUPS; left > 0 && next >= 0 && next < parents.length; left--) {
+                addLayer(next);
                 next = parents[next];
             }
             dropOtherGroups();
         }
 
+        boolean hasLayer(int layer) {
+            return layer >= 0 && layer < layerCount;
+        }
+
+        /** Returns NONE if there is no such layer. */
+        int cellIn(int layer, int key) {
+            return hasLayer(layer) ? cellOf(slotOfLayer[layer], key) : NONE;
+        }
+
+        private void addLayer(int slot) {
+            if (layerCount < slotOfLayer.length) {
+                slotOfLayer[layerCount] = slot;
+                layerCount++;
+            }
+        }
+
         private void dropOtherGroups() {
             for (int slot = 0; slot < GROUPS; slot++) {
-                if (!isLayer(slot)) {
+                if (!isAmongLayers(slot)) {
                     drop(slot);
                 }
             }
@@ -739,11 +792,11 @@ public final class FleetSettings {
 
         private void drop(int slot) {
             for (int key = 0; key < KEYS; key++) {
-                takenAt[cellOf(slot, key)] = NONE;
+                takenCells.set(cellOf(slot, key), NONE);
             }
         }
 
-        private boolean isLayer(int slot) {
+        private boolean isAmongLayers(int slot) {
             for (int layer = 0; layer < layerCount; layer++) {
                 if (slotOfLayer[layer] == slot) {
                     return true;
