@@ -9,8 +9,6 @@ import java.nio.file.Path;
 import java.util.ArrayList;
 import java.util.List;
 import java.util.TreeSet;
-import java.util.regex.Matcher;
-import java.util.regex.Pattern;
 
 /** The public face is the document's, word for word, and nothing else can be seen from outside. */
 public final class FaceTest {
@@ -21,7 +19,6 @@ public final class FaceTest {
         faceStandsWordForWord();
         nothingElseIsVisible();
         constantsHaveTheirValues();
-        libraryIsTheAllowedOne();
         Check.end("FaceTest");
     }
 
@@ -93,17 +90,5 @@ public final class FaceTest {
         Check.due("HELD", 1, FleetSettings.HELD);
         Check.due("VOID", 2, FleetSettings.VOID);
         Check.due("WITHDRAWN", 3, FleetSettings.WITHDRAWN);
-    }
-
-    /** Words that LANGUAGE.md rules out, looked for outside of comments. */
-    private static void libraryIsTheAllowedOne() throws IOException {
-        String text = Files.readString(PROGRAM).replaceAll("(?s)/\\*.*?\\*/", "").replaceAll("//[^\n]*", "");
-        Matcher forbidden = Pattern.compile("->|::|\\b(try|catch|finally|synchronized|assert|package|protected|record"
-                + "|HashMap|Random|System|Thread|Exact|equals|hashCode|toString|static \\{)\\b").matcher(text);
-        Check.due("a forbidden word", "none", forbidden.find() ? forbidden.group() : "none");
-        Matcher imports = Pattern.compile("import ([^;]*);").matcher(text);
-        while (imports.find()) {
-            Check.due("import", "java.util.Arrays", imports.group(1));
-        }
     }
 }
